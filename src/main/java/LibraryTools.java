@@ -543,13 +543,15 @@ public final class LibraryTools {
             return numberAt(placeFor(number)) == number;
         }
 
+        /** False where one of them has no such line. */
         boolean isAlike(int i, Lines other, int j) {
-            int length = lengthAt(i);
-            if (length != other.lengthAt(j)) {
+            if (!has(i) || !other.has(j) || lengths[i] != other.lengths[j]) {
                 return false;
             }
-            for (int k = 0; k < length; k++) {
-                if (signAt(i, k) != other.signAt(j, k)) {
+            int here = i * MOST_SIGNS;
+            int there = j * MOST_SIGNS;
+            for (int k = 0; k < lengths[i]; k++) {
+                if (signs[here + k] != other.signs[there + k]) {
                     return false;
                 }
             }
@@ -703,9 +705,7 @@ public final class LibraryTools {
         private boolean meetsAhead(Lines first, int i, Lines second, int j) {
             for (int inAll = 1; inAll <= lookAhead; inAll++) {
                 for (int left = 0; left <= inAll; left++) {
-                    int a = i + left;
-                    int b = j + inAll - left;
-                    if (first.has(a) && second.has(b) && first.isAlike(a, second, b)) {
+                    if (first.isAlike(i + left, second, j + inAll - left)) {
                         leftOfFirst = left;
                         leftOfSecond = inAll - left;
                         return true;

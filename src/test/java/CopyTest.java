@@ -4,6 +4,7 @@ public final class CopyTest {
 
     public static void main(String[] args) {
         allComeFromLowestNamesOn();
+        theFirstAndLastNameComeToo();
         aReplacingLibraryTakesLines();
         aKeepingLibraryLeavesOut();
         oneComesUnderANewName();
@@ -42,6 +43,15 @@ public final class CopyTest {
         checks.due("the old ones stay", x.find(1, 5), 1);
         checks.due("count(1)", x.count(1), 4);
         checks.due("a library without members", x.copy(x.library(true), 1, -1, -1), 8);
+    }
+
+    private static void theFirstAndLastNameComeToo() {
+        LibraryTools x = house(false);
+        x.member(1, 99);
+        x.member(1, 0);
+        checks.due("copy all", x.copy(1, 2, -1, -1), 0);
+        checks.due("name 0", x.find(2, 0), 5);
+        checks.due("name 99", x.find(2, 99), 8);
     }
 
     private static void aReplacingLibraryTakesLines() {
