@@ -23,7 +23,11 @@ final class Checks {
             wrong++;
             System.out.println(title + ": " + call + " answered " + got + ", due is an exception");
         } catch (ArrayIndexOutOfBoundsException e) {
-            // This is what is due.
+            // The machine's own exception, of an index that was not looked at, bears a text.
+            if (e.getMessage() != null) {
+                wrong++;
+                System.out.println(title + ": " + call + " let the machine throw: " + e.getMessage());
+            }
         }
     }
 
@@ -33,6 +37,20 @@ final class Checks {
             wrong++;
             System.out.println(title + ": " + call + " answered \"" + got + "\", due is \"" + want + "\"");
         }
+    }
+
+    void fail(String what) {
+        made++;
+        wrong++;
+        System.out.println(title + ": " + what);
+    }
+
+    int made() {
+        return made;
+    }
+
+    int wrong() {
+        return wrong;
     }
 
     /** Ends the test, with exit code 1 if an answer was wrong. */
@@ -60,11 +78,21 @@ final class Checks {
     /** A member as "5=AB 10=C", or "" without lines or without the member. */
     static String read(LibraryTools x, int member) {
         StringBuilder all = new StringBuilder();
-        for (int i = 0; x.letter(member, i, -1) != LibraryTools.NONE; i++) {
-            all.append(i == 0 ? "" : " ").append(x.letter(member, i, -1)).append('=');
-            for (int k = 0; x.letter(member, i, k) != LibraryTools.NONE; k++) {
-                all.append((char) x.letter(member, i, k));
-            }
+        int number = x.letter(member, 0, -1);
+        for (int i = 1; number != LibraryTools.NONE; i++) {
+            all.append(i == 1 ? "" : " ").append(number).append('=').append(readLine(x, member, i - 1));
+            number = x.letter(member, i, -1);
+        }
+        return all.toString();
+    }
+
+    /** The signs of a member's line, or "" without. */
+    static String readLine(LibraryTools x, int member, int i) {
+        StringBuilder all = new StringBuilder();
+        int sign = x.letter(member, i, 0);
+        for (int k = 1; sign != LibraryTools.NONE; k++) {
+            all.append((char) sign);
+            sign = x.letter(member, i, k);
         }
         return all.toString();
     }
@@ -72,9 +100,11 @@ final class Checks {
     /** The differences of the latest comparison as "1:2/0 3:4/5". */
     static String differences(LibraryTools x) {
         StringBuilder all = new StringBuilder();
-        for (int i = 0; x.differ(i, 0) != LibraryTools.NONE; i++) {
-            all.append(i == 0 ? "" : " ").append(x.differ(i, 0)).append(':');
+        int kind = x.differ(0, 0);
+        for (int i = 0; kind != LibraryTools.NONE; i++) {
+            all.append(i == 0 ? "" : " ").append(kind).append(':');
             all.append(x.differ(i, 1)).append('/').append(x.differ(i, 2));
+            kind = x.differ(i + 1, 0);
         }
         return all.toString();
     }
@@ -104,8 +134,10 @@ final class Checks {
 
     static String dumpLine(LibraryTools x, int i) {
         StringBuilder all = new StringBuilder();
-        for (int k = 0; x.dump(i, k) != LibraryTools.NONE; k++) {
-            all.append((char) x.dump(i, k));
+        int sign = x.dump(i, 0);
+        for (int k = 1; sign != LibraryTools.NONE; k++) {
+            all.append((char) sign);
+            sign = x.dump(i, k);
         }
         return all.toString();
     }
