@@ -121,6 +121,13 @@ final class TextBoundaries {
         told(c, "BQD", "DXYB", 3, "1:1/0 1:2/0 2:0/102 2:0/103 2:0/104");
     }
 
+    @Sentence(words = "are left, the fewest")
+    static void linesThatWerePassedAreNotMetAgain(Checks c) {
+        told(c, "AB", "AXYA", 3, "3:2/102 2:0/103 2:0/104");
+        told(c, "AXYA", "AB", 3, "3:2/102 1:3/0 1:4/0");
+        told(c, "ABC", "XAYZCAA", 3, "2:0/101 1:2/0 2:0/103 2:0/104 2:0/106 2:0/107");
+    }
+
     @Sentence(words = "the fewest of the first one's at first")
     static void theFewestOfTheFirstAreLeft(Checks c) {
         told(c, "AB", "BA", 1, "2:0/101 1:2/0");

@@ -309,6 +309,7 @@ final class TransferBoundaries {
         c.dueText("0 and 9", Checks.dumpLine(exported(239, 240, 249, 250), 1).substring(22), " .09.");
         c.dueText("a blank", Checks.dumpLine(exported(63, 64, 65, 48), 1).substring(22), " . ..");
         c.dueText("the least and the greatest", Checks.dumpLine(exported(0, 255, 32, 126), 1).substring(22), " ....");
+        c.dueText("the first byte and the last", Checks.dumpLine(exported(193, 0, 255, 249), 1).substring(22), " A..9");
     }
 
     @Sentence(promise = 22, words = "The k-th sign of the i-th line of a dump; NONE without one.")
